@@ -462,7 +462,10 @@ public final class BallMinder {
     }
 
     private static int bounded(int v, int least, int greatest) {
-        return Math.max(least, Math.min(greatest, v));
+        if (v < least) {
+            return least;
+        }
+        return v > greatest ? greatest : v;
     }
 
     private static int quotient(int upper, int lower) {
