@@ -191,14 +191,12 @@ public final class FarTest {
         // from 100 it rests; from 101 it feels 1: 50 - 1 = 49 shuts by 10 of 5: 99, 101, 99: a ring
         b = with(0, "w5;r0;g10");
         due.is("reach of what rings from 101 on", b.reach(0), 0);
-        // g 9 feels nothing of 1 (9 by 10 is 0)
-        b = with(0, "w5;r0;g9");
-        int n = 0;
-        while (n < 100 && b.far(0, 100 + n, 50, 50, 0) == 0) {
-            n++;
+        // off by 4: 3 less, by 7 down: -3: 2 more, by 5 up: 2: 1 less, by 2 down: 0; off by 5: 4 less, by 10 down: -5
+        b = with(0, "w4;r0;g8");
+        due.is("reach of what rings from 105 on", b.reach(0), 4);
+        for (int n = 0; n <= 5; n++) {
+            due.is("as far tells", b.far(0, 100 + n, 50, 50, 0), n == 5 ? 1 : 0);
         }
-        due.is("as far tells", b.reach(0), n - 1);
-        due.holds("from 101 it rests", n > 1);
     }
 
     private static void twoOnAShaft(Due due) {
@@ -223,6 +221,8 @@ public final class FarTest {
         Texts.drawn(b, 0, "w10;r4;g1");
         due.is("both brakes pull", b.two(0, 1, 120, 96, 3) < 114 ? 1 : 0, 1);
         due.is("load 200", b.two(0, 1, 120, 200, 0) >= 0 ? 1 : 0, 1);
+        due.is("load 0", b.two(0, 1, 120, 0, 0) >= 0 ? 1 : 0, 1);
+        due.is("v 0", b.two(0, 1, 0, 100, 3), 0);
         due.is("load 201", b.two(0, 1, 120, 201, 0), OUTSIDE);
         due.is("load -1", b.two(0, 1, 120, -1, 0), OUTSIDE);
         due.is("v -1", b.two(0, 1, -1, 0, 0), OUTSIDE);
@@ -233,6 +233,20 @@ public final class FarTest {
         due.is("both are one that is not", b.two(2, 2, 100, 0, 0), UNKNOWN);
         due.is("the other is not", b.two(0, 2, 1000, 0, 0), UNKNOWN);
         due.is("the one is not", b.two(-1, 0, 100, 0, 0), UNKNOWN);
+        twoOfUnlikeLate(due);
+    }
+
+    private static void twoOfUnlikeLate(Due due) {
+        // from 110: 40, 40: -200 by 20: 100; 50, 40: 95; 55, 50: 97; 53, 55: 101; 49, 53: 102; 48, 49: 101; 49, 48: 100;
+        // 50, 49: 100; 50, 50: 100 (the ninth); and once more
+        BallMinder b = with(0, "w10;r0;g10");
+        Texts.drawn(b, 0, "w10;r0;g10;d1");
+        for (int turned = 0; turned < 2; turned++) {
+            due.is("rest", b.two(turned, 1 - turned, 110, 100, 0), 0);
+            due.is("comes round", b.two(turned, 1 - turned, 110, 100, 1), 10);
+            due.is("lowest", b.two(turned, 1 - turned, 110, 100, 3), 95);
+            due.is("greatest", b.two(turned, 1 - turned, 110, 100, 4), 110);
+        }
     }
 
     private static void shares(Due due) {
@@ -269,6 +283,8 @@ public final class FarTest {
         due.is("of none", b.best(0, 80), NONE);
         due.is("bit 3", b.best(8, 80), OUTSIDE);
         due.is("all bits", b.best(-1, 80), OUTSIDE);
+        due.is("load 0", b.best(6, 0), 1);
+        due.is("load 100", b.best(6, 100), 1);
         due.is("load 101", b.best(7, 101), OUTSIDE);
         due.is("load -1", b.best(0, -1), OUTSIDE);
         for (int k = 3; k < 8; k++) {

@@ -94,6 +94,9 @@ public final class NearRestTest {
         due.is("more pull", b.better(0, 5), -1);
         due.is("a second one", b.better(0, 6), Long.compare(51L * 55 * 15 - 10 * 225 - 2601, 51 * 55 - 150));
         due.is("as it was", b.ofMill(0, 3), 5);
+        // by one more alone: r 0, b 1, o 1, k 1: w w - w g; w 1 to 2 with g 3: -2 and -2, to 3: 0
+        b = with("w1;r0;b1;o1;k1;g3");
+        due.is("the same by one more", b.better(0, 0), 0);
         // w b k g r o: with r 0 and o 0 margin is - w b g: k changes nothing
         b = with("w10;r0;b1;o0;k5;g10");
         due.is("more spring", b.better(0, 4), 0);
@@ -148,6 +151,7 @@ public final class NearRestTest {
         b.turn(0, 2, 40);
         due.is("not STILL at all", b.years(0, 2, 0), 1);
         due.is("becoming STILL", b.years(0, 2, -9), 1);
+        due.is("in the wheel", b.years(0, 0, 1), 1);
         due.is("c 10", b.years(0, 2, 10), OUTSIDE);
         due.is("c -10", b.years(0, 2, -10), OUTSIDE);
         due.is("number 7", b.years(0, 7, 10), UNKNOWN);

@@ -80,6 +80,9 @@ public final class SheetsTest {
         b.sheet(0, 2, 3);
         due.is("put -1", b.put(0, -1, 1), -13);
         due.is("put 3", b.put(0, 3, 1), -13);
+        due.is("fault()", b.fault(), 3);
+        due.is("put 2", b.put(0, 2, 1), 1);
+        due.is("fault()", b.fault(), 0);
         due.is("cast ahead of index", b.cell(0, 3, 1), LOST);
         due.is("fault()", b.fault(), 2);
         due.is("index", b.cell(0, 3, 2), LOST);

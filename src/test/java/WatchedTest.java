@@ -70,6 +70,8 @@ public final class WatchedTest {
         due.is("stick of a plain one, how many", b.fits(0, 8, 50, 2), 50);
         due.is("late", b.fits(0, 7, 50, 2), 4);
         due.is("with another load", b.fits(0, 5, 40, 0), 20);
+        due.is("with no load", b.fits(0, 5, 0, 2), 0);
+        due.is("with all load", b.fits(0, 5, 100, 2), 0);
         due.is("as it was", b.ofMill(0, 5), 10);
         Texts.watched(b, 110, 100, 100);
         due.is("late behind two", b.fits(0, 7, 50, 2), 1);
