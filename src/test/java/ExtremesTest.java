@@ -6,11 +6,11 @@ import java.util.Arrays;
  */
 public final class ExtremesTest {
     private static final String[] CALLS = {"mill", "ofMill", "turn", "row", "margin", "near", "line", "better", "off",
-        "years", "far", "after", "reach", "two", "share", "best", "watch", "fits", "sheet", "lose", "put", "cell", "copy",
-        "tell", "ring", "as", "trace", "fault", "many"};
-    private static final int[] MANY = {Integer.MIN_VALUE, Integer.MIN_VALUE + 1, -65536, -129, -128, -101, -100, -99, -10,
-        -9, -8, -2, -1, 0, 1, 2, 3, 4, 5, 6, 7, 8, 9, 10, 19, 20, 21, 49, 50, 51, 59, 60, 61, 98, 99, 100, 101, 127, 128,
-        199, 200, 201, 255, 256, 299, 300, 301, 998, 999, 1000, 32767, 32768, 65536, Integer.MAX_VALUE - 1,
+        "years", "far", "after", "reach", "two", "share", "best", "watch", "fits", "sheet", "lose", "put", "cell",
+        "copy", "tell", "ring", "as", "trace", "fault", "many"};
+    private static final int[] MANY = {Integer.MIN_VALUE, Integer.MIN_VALUE + 1, -65536, -129, -128, -101, -100, -99,
+        -10, -9, -8, -2, -1, 0, 1, 2, 3, 4, 5, 6, 7, 8, 9, 10, 19, 20, 21, 49, 50, 51, 59, 60, 61, 98, 99, 100, 101,
+        127, 128, 199, 200, 201, 255, 256, 299, 300, 301, 998, 999, 1000, 32767, 32768, 65536, Integer.MAX_VALUE - 1,
         Integer.MAX_VALUE};
     private static final int[] SOME = {Integer.MIN_VALUE, -1, 0, 1, 2, 3, 5, 6, 50, 100, 101, 999, 1000,
         Integer.MAX_VALUE};

@@ -1,4 +1,4 @@
-/** The edges that the document names in section 3 and promises 12 to 14; above each test the sentence that it holds to. */
+/** The edges that the document names in section 3 and promises 12 to 14; above each test the sentence it holds to. */
 public final class FarEdgesTest {
     private static final int OUTSIDE = BallMinder.OUTSIDE, UNKNOWN = BallMinder.UNKNOWN, NONE = BallMinder.NONE;
     private static final int[] EXTREMES = {Integer.MIN_VALUE, Integer.MAX_VALUE};
@@ -270,7 +270,7 @@ public final class FarEdgesTest {
             far(b, 105, 50, 50, 0, late + 2, 1, 100, 105);
             far(b, 100, 50, 50, 0, 1, 1, 100, 100);
         }
-        // 600, 100, 0, 0, 0, 500, 999, 999, 499, 0, 0, 0, 500; shut to tick 3, 50 at 4, open from 5 to 7, shut from 8 to 11
+        // 600, 100, 0, 0, 0, 500, 999, 999, 499, 0, 0, 0, 500; shut to tick 3, 50 at 4, open to 7, shut to 11, open
         far(with(0, "w1;r0;g99;d2"), 600, 0, 50, 1, 12, 7, 0, 999);
     }
 

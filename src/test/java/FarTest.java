@@ -237,8 +237,8 @@ public final class FarTest {
     }
 
     private static void twoOfUnlikeLate(Due due) {
-        // from 110: 40, 40: -200 by 20: 100; 50, 40: 95; 55, 50: 97; 53, 55: 101; 49, 53: 102; 48, 49: 101; 49, 48: 100;
-        // 50, 49: 100; 50, 50: 100 (the ninth); and once more
+        // from 110: 40, 40: -200 by 20: 100; 50, 40: 95; 55, 50: 97; 53, 55: 101; 49, 53: 102; 48, 49: 101; 49, 48:
+        // 100; 50, 49: 100; 50, 50: 100 (the ninth); and once more
         BallMinder b = with(0, "w10;r0;g10");
         Texts.drawn(b, 0, "w10;r0;g10;d1");
         for (int turned = 0; turned < 2; turned++) {

@@ -1,4 +1,4 @@
-/** The edges that the document names in section 1 and promises 1 to 4; above each test the sentence that it holds to. */
+/** The edges that the document names in section 1 and promises 1 to 4; above each test the sentence it holds to. */
 public final class MillsEdgesTest {
     private static final int UNKNOWN = BallMinder.UNKNOWN, OUTSIDE = BallMinder.OUTSIDE, FULL = BallMinder.FULL;
     private static final String LETTERS = "wrbokgids";
@@ -14,6 +14,7 @@ public final class MillsEdgesTest {
         MillsEdgesTest test = new MillsEdgesTest();
         test.nothingAtFirst();
         test.eightEver();
+        test.atFirst();
         test.oneToNineItems();
         test.everyCodeAtFirst();
         test.everyCodeBehindALetter();
@@ -100,6 +101,20 @@ public final class MillsEdgesTest {
         for (int x = 0; x < 8; x++) {
             due.is("wheel", b.ofMill(x, 0), x + 1);
             due.is("kind", b.ofMill(x, 9), x % 3);
+        }
+    }
+
+    /** Each has 9 NUMBERS (letter, least, greatest, at first). */
+    private void atFirst() {
+        int[] first = {10, 1, 1, 5, 5, 10, 0, 0, 5};
+        for (int k = 0; k < 9; k++) {
+            BallMinder b = new BallMinder();
+            for (int kind = 0; kind < 3; kind++) {
+                Texts.drawn(b, kind, LETTERS.charAt(k) + "2");
+                for (int what = 0; what < 9; what++) {
+                    due.is("ofMill(" + kind + ", " + what + ")", b.ofMill(kind, what), what == k ? 2 : first[what]);
+                }
+            }
         }
     }
 

@@ -1,4 +1,4 @@
-/** The edges that the document names in section 2 and promises 5 to 11; above each test the sentence that it holds to. */
+/** The edges that the document names in section 2 and promises 5 to 11; above each test the sentence it holds to. */
 public final class NearRestEdgesTest {
     private static final int UNKNOWN = BallMinder.UNKNOWN, OUTSIDE = BallMinder.OUTSIDE, STATE = BallMinder.STATE;
     private static final int NONE = BallMinder.NONE;
@@ -84,7 +84,8 @@ public final class NearRestEdgesTest {
         due.is("greatest numbers with SECOND", with("w99;r20;b99;o99;k99;g99;i20").margin(0),
             11781L * 11781 * 2079 - 9801L * 2079 * 2079 - 11781L * 11781 * 20);
         due.is("far below", with("w99;r0;b99;o0;k0;g99").margin(0), -9801L * 99);
-        due.is("far below with SECOND", with("w99;r0;b99;o99;k0;g99;i20").margin(0), -9801L * 99 * 99 - 9801L * 9801 * 20);
+        due.is("far below with SECOND", with("w99;r0;b99;o99;k0;g99;i20").margin(0),
+            -9801L * 99 * 99 - 9801L * 9801 * 20);
     }
 
     /** STILL: MARGIN is above 0; RINGS: MARGIN is 0; HUNTS else. */

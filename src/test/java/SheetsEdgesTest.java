@@ -356,7 +356,7 @@ public final class SheetsEdgesTest {
         row(b, 1, 0, 7);
     }
 
-    /** PLAIN (1): its WHEEL. OILED (2): what PLAIN's gives, and 100. STICKY (3): what OILED's gives, and what PLAIN's. */
+    /** PLAIN (1): its WHEEL. OILED (2): what PLAIN's gives, and 100. STICKY (3): OILED's and PLAIN's. */
     private void tellingOfEachKind() {
         for (int wheel : new int[] {1, 99}) {
             BallMinder b = new BallMinder();

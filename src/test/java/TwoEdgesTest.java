@@ -1,4 +1,4 @@
-/** The edges that the document names in promises 15 to 17 (two, share, best); above each test the sentence it holds to. */
+/** The edges that the document names in promises 15 to 17; above each test the sentence it holds to. */
 public final class TwoEdgesTest {
     private static final int OUTSIDE = BallMinder.OUTSIDE, UNKNOWN = BallMinder.UNKNOWN, NONE = BallMinder.NONE;
     private static final long LOST = BallMinder.LOST;
@@ -13,6 +13,7 @@ public final class TwoEdgesTest {
         test.bothWheelsAndBrakes();
         test.theGreaterLate();
         test.eachItsOwnLate();
+        test.eachOfItsOwnKind();
         test.eachItsOwnMissed();
         test.comesRoundAtTheLastTick();
         test.valvesWhereItComesRound();
@@ -98,14 +99,26 @@ public final class TwoEdgesTest {
     }
 
     private void eachItsOwnLate() {
-        // 40, 40: 108; 42, 40: 107; 43, 40: 106; 44, 40: 105; 45, 42: 104; 46, 43: 103; 47, 44; 47, 45; 47, 46; 47, 47 (the
-        // tenth); and once more
+        // 40, 40: 108; 42, 40: 107; 43, 40: 106; 44, 40: 105; 45, 42: 104; 46, 43: 103; 47, 44; 47, 45; 47, 46;
+        // 47, 47 (the tenth); and once more
         two(with("w50;r0;g10;d0", "w50;r0;g10;d3"), 110, 100, 0, 11, 1, 103, 110, 47, 47);
+    }
+
+    /** THE VALVE of a PLAIN one, of an OILED one, of a STICKY one. */
+    private void eachOfItsOwnKind() {
+        BallMinder b = with("w10;r0;g10");
+        Texts.drawn(b, 2, "w10;r0;g10;s50");
+        // the sticky one stays: 40: 105; 45: 103; 47: 102; 48: 101; 49: 101; 49
+        two(b, 110, 100, 0, 6, 1, 101, 110, 49, 50);
+        b = with("w10;r0;g10");
+        Texts.drawn(b, 1, "w10;r0;g10;o39");
+        // the oiled one goes by 1: 40, 49: 105; 45, 48: 102; 48, 48: 100; 50, 49: 100; 50, 50: 100; and once more
+        two(b, 110, 100, 0, 6, 1, 100, 110, 50, 50);
     }
 
     /** Each its VALVE and MISSED. */
     private void eachItsOwnMissed() {
-        // the wheels are so heavy that the beat stays at 101; the one misses nothing, the other 1 a tick, felt by 10 by 10
+        // the wheels are so heavy that the beat stays at 101; the one misses nothing, the other 1 a tick
         BallMinder b = with("w99;r0;g1", "w99;r0;g1;i10");
         two(b, 101, 85, 2, NONE, NONE, 101, 101, 50, 20);
         b.turn(1, 6, 0);

@@ -1,6 +1,6 @@
 /**
- * A state in which all that a call could change is something: three mills, one of each kind; on sheet 0 bytes ("w5;g9"),
- * on 1 shorts, on 2 ints, on 3 nothing; two beats watched; a trace; SIZE as the latest fault.
+ * A state in which all that a call could change is something: three mills, one of each kind; on sheet 0 bytes
+ * ("w5;g9"), on 1 shorts, on 2 ints, on 3 nothing; two beats watched; a trace; SIZE as the latest fault.
  */
 final class World {
     /** What fault() tells in it. */
