@@ -15,6 +15,7 @@ public final class TwoEdgesTest {
         test.eachItsOwnLate();
         test.eachOfItsOwnKind();
         test.eachItsOwnMissed();
+        test.nothingIsLeftOfARunAhead();
         test.comesRoundAtTheLastTick();
         test.valvesWhereItComesRound();
         test.bothAreOne();
@@ -126,6 +127,32 @@ public final class TwoEdgesTest {
         b.turn(1, 6, 5);
         b.turn(0, 6, 5);
         two(b, 101, 85, 2, NONE, NONE, 101, 101, 35, 35);
+    }
+
+    /** FROM .. MISSED 0, all BEATS ahead v: each run begins anew, whatever ran ahead of it. */
+    private void nothingIsLeftOfARunAhead() {
+        String[] texts = {"w10;r0;g10", "w99;r0;g1;i10", "w10;r10;g1;d3"};
+        for (int other = 1; other < 3; other++) {
+            BallMinder b = with(texts);
+            for (int what = 0; what < 5; what++) {
+                // a long run that leaves valves, beats and what was missed behind, of the one and of the other
+                b.two(1, 2, 900, 85, 0);
+                b.two(0, 1, 101, 85, 0);
+                b.two(2, 1, 101, 85, 0);
+                due.is("far behind two", b.far(0, 110, 50, 50, what), with(texts).far(0, 110, 50, 50, what));
+                b.two(2, 1, 101, 85, 0);
+                int anew = with(texts).far(other, 105, 50, 50, what);
+                due.is("far of another behind two", b.far(other, 105, 50, 50, what), anew);
+                b.two(1, 2, 101, 85, 0);
+                anew = with(texts).two(0, other, 110, 100, what);
+                due.is("two behind two", b.two(0, other, 110, 100, what), anew);
+            }
+            b.two(2, 1, 101, 85, 0);
+            due.is("reach behind two", b.reach(0), 99);
+            b.two(2, 1, 101, 85, 0);
+            due.is("after behind two", b.after(1, 101, 50, 50, 0, 2), 0);
+            due.is("after behind two", b.after(1, 101, 50, 50, 3, 2), 3);
+        }
     }
 
     /** Likewise: at most 300 TICKS. */
